@@ -1,0 +1,1 @@
+public final class HoursTest { public static void main(String[] a) { Check.finish(); } }
