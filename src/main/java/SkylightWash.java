@@ -463,8 +463,8 @@ public final class SkylightWash {
             for (int i = 0; i < KEYWORDS.length(); i++) {
                 if (KEYWORDS.charAt(i) == ' ') {
                     index++;
-                } else {
-                    putWide(keywords, index, spelled(wide(keywords, index), KEYWORDS.charAt(i)));
+                } else if (index < keywords.length) {
+                    keywords[index] = spelled(keywords[index], KEYWORDS.charAt(i));
                 }
             }
         }
