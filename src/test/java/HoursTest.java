@@ -8,6 +8,7 @@ public final class HoursTest {
         wrongHours();
         chimneys();
         chimneysByHours();
+        theWholeRow();
         flockStaysAndGoes();
         flockOnAPaneThatGoes();
         flockDrivenOff();
@@ -72,6 +73,19 @@ public final class HoursTest {
             wash.pass(1);
             dirts("in hour " + hour, wash, due[hour]);
         }
+    }
+
+    private static void theWholeRow() {
+        SkylightWash wash = Check.taught("bay a panes 8 thick 9; bay b panes 8 thick 8; bay c panes 8 thick 7; bay d panes 8 thick 6;"
+                + "bay e panes 8 thick 1; chimney h at 39 soot 22 every 1 reach 9; cradle c at 39 speed 9 wash 1;"
+                + "go c to 0 when hour = 4; flock f birds 1 every 12;");
+        Check.due("P16 the end of the row", wash.pass(4), 3);
+        dirts("the row", wash, 4 * 1, 0, 0, 0);
+        Check.due("P16 the last pane that has soot", wash.pane(30, 1), 4 * 13);
+        Check.due("P16 the first pane that is let go", wash.pane(37, 3), 1);
+        Check.due("P16 the pane where the cradle washed", wash.pane(39, 3), 1);
+        wash.pass(1);
+        Check.due("P16 nine panes less", wash.cradle(0, 0), 30);
     }
 
     private static void flockStaysAndGoes() {
@@ -194,6 +208,11 @@ public final class HoursTest {
         dirts("washed", wash, 0, 0);
         Check.due("P16 what was washed off", wash.cradle(0, 5), 90);
         Check.due("P16 water", wash.cradle(0, 3), 17);
+        SkylightWash little = Check.taught("bay a panes 2 thick 1; chimney h at 1 soot 1 every 12 reach 0; cradle c at 1 speed 9 wash 60;");
+        little.pass(2);
+        dirts("a little washed", little, 0, 0);
+        Check.due("P16 the water that took", little.cradle(0, 3), 19);
+        Check.due("P16 the little that was washed off", little.cradle(0, 5), 1);
         // No water goes on a clean pane, and none on one that was let go.
         SkylightWash clean = Check.taught("bay a panes 2 thick 1; chimney h at 1 soot 30 every 1 reach 0; cradle c at 0 speed 9 wash 60;"
                 + "go c to 1 when hour = 4;");

@@ -13,6 +13,7 @@ public final class LanguageTest {
         feedingTooMuch();
         trimming();
         teachingAnew();
+        teachingTheSameAnew();
         teachingWrongly();
         errorPlaces();
         tokens();
@@ -121,6 +122,22 @@ public final class LanguageTest {
         Check.due("P4 the wind stays", wash.count(1), -2);
     }
 
+    private static void teachingTheSameAnew() {
+        String list = "bay a panes 3 thick 9; chimney h at 1 soot 30 every 1 reach 9; cradle c at 2 speed 1 wash 5;"
+                + "flock f birds 3 every 2; go c to 1;";
+        SkylightWash wash = Check.taught(list);
+        wash.pass(5);
+        Check.due("P4 a cradle that went", wash.cradle(0, 0), 1);
+        Check.feed(wash, list);
+        Check.due("P4 teach of the same", wash.teach(), 0);
+        SkylightWash other = Check.taught("");
+        other.pass(5);
+        Check.feed(other, list);
+        other.teach();
+        Check.due("P4 all begins anew", wash.digest(), other.digest());
+        Check.due("P4 no dirt", wash.count(9), 0);
+    }
+
     private static void teachingWrongly() {
         SkylightWash wash = Check.taught(ALL + "chimney h at 1 soot 30 every 1 reach 9; go c to 1; scare f when 1 = 1;");
         wash.pass(3);
@@ -191,6 +208,8 @@ public final class LanguageTest {
         Check.dueError(BAY + "chimney h at -1 soot 1 every 1 reach 0;", 1, BAY.length() + 13);
         Check.dueError(ALL + "scare f;", 1, ALL.length() + 7);
         Check.dueError(ALL + "scare f when 1;", 1, ALL.length() + 14);
+        Check.dueError(ALL + "scare f when 1 (2);", 1, ALL.length() + 15);
+        Check.dueError(ALL + "scare f when 1 2;", 1, ALL.length() + 15);
         Check.dueError(ALL + "scare f when 1 < 2 < 3;", 1, ALL.length() + 19);
         Check.dueError(ALL + "scare f when [1 < 2;", 1, ALL.length() + 19);
         Check.dueError(ALL + "scare f when (1 < 2);", 1, ALL.length() + 16);
@@ -236,6 +255,8 @@ public final class LanguageTest {
         Check.dueError(begin + "not ".repeat(8) + "(1)=1;", 1, begin.length() + 32);
         Check.dueError(begin + "not ".repeat(8) + "dirt(1)=1;", 1, begin.length() + 36);
         Check.dueError(begin + "not not not [ not [ not [ not dark a] or " + "not ".repeat(3) + "dark a ]];", 1, begin.length() + 26);
+        Check.dueError(CRADLE + "go c to 1 when " + "[".repeat(8) + "1=1" + "]".repeat(8) + ";", 0, -1);
+        Check.dueError(CRADLE + "go c to 1 when " + "[".repeat(9) + "1=1" + "]".repeat(9) + ";", 1, CRADLE.length() + 23);
         Check.dueError(begin + "not not not [ not [ not [ dark a] or not not dark a ]] and " + "not ".repeat(8) + "dark a;", 0, -1);
     }
 
@@ -251,7 +272,11 @@ public final class LanguageTest {
         Check.dueError(begin + "dirt(".repeat(8) + "1" + ")".repeat(8) + ";", 0, -1);
         Check.dueError(begin + "dirt(".repeat(9) + "1" + ")".repeat(9) + ";", 1, begin.length() + 44);
         Check.dueError(begin + "min(1,".repeat(8) + "1" + ")".repeat(8) + ";", 0, -1);
+        Check.dueError(begin + "min(".repeat(8) + "1" + ",1)".repeat(8) + ";", 0, -1);
+        Check.dueError(begin + "min(".repeat(9) + "1" + ",1)".repeat(9) + ";", 1, begin.length() + 35);
         Check.dueError(begin + "max(1,".repeat(9) + "1" + ")".repeat(9) + ";", 1, begin.length() + 51);
+        Check.dueError(begin + "min(1," + "(".repeat(7) + "1" + ")".repeat(7) + ");", 0, -1);
+        Check.dueError(begin + "min(1," + "(".repeat(8) + "1" + ")".repeat(8) + ");", 1, begin.length() + 13);
         Check.dueError(begin + "max(" + "-".repeat(7) + "1," + "-".repeat(8) + "1);", 1, begin.length() + 20);
     }
 

@@ -163,6 +163,9 @@ public final class OutlookTest {
         spared("cradle c at 2 speed 9 wash 60; cradle d at 0 speed 9 wash 60;", 1);
         spared("cradle c at 0 speed 9 wash 60; cradle d at 2 speed 9 wash 60; cradle e at 2 speed 1 wash 1;", 0);
         spared("cradle c at 2 speed 9 wash 9; cradle d at 2 speed 9 wash 8; cradle e at 3 speed 1 wash 1;", 2);
+        spared("cradle c at 3 speed 9 wash 60; cradle d at 2 speed 9 wash 60; chimney i at 0 soot 9 every 1 reach 0;"
+                + "cradle e at 0 speed 9 wash 60;", 0);
+        spared("cradle c at 2 speed 9 wash 60; cradle d at 0 speed 9 wash 60; chimney i at 0 soot 9 every 1 reach 0;", 1);
         spared("cradle c at 1 speed 9 wash 60; cradle d at 1 speed 9 wash 60; go c to 2;", 1);
         // Its pane and its water are told as they are, so that d goes to pane 2 without c too.
         spared("cradle c at 2 speed 9 wash 60; cradle d at 0 speed 9 wash 60; go d to at c;", 0);
@@ -200,7 +203,9 @@ public final class OutlookTest {
         wash.pass(3);
         Check.dueDouble("P22 without the pane let go", wash::mean, 10.0);
         SkylightWash gone = Check.taught("bay a panes 1 thick 1; chimney h at 0 soot 20 every 1 reach 0;");
-        gone.pass(4);
+        gone.pass(1);
+        Check.dueDouble("P22 of a single pane", gone::mean, 20.0);
+        gone.pass(3);
         Check.dueDouble("P22 all let go", gone::mean, 0.0);
     }
 
