@@ -5,8 +5,14 @@ import java.util.function.LongSupplier;
 /** What all tests share: it compares answers, and puts texts on the tape. */
 final class Check {
     private static int wrong = 0;
+    private static String sentence = "";
 
     private Check() {
+    }
+
+    /** From here on the answers are those that this sentence of the document makes due. */
+    static void sentence(String text) {
+        sentence = text + "\n    ";
     }
 
     static void due(String what, long got, long want) {
@@ -41,7 +47,7 @@ final class Check {
     static void say(String text) {
         wrong++;
         if (wrong <= 40) {
-            System.out.println(text);
+            System.out.println(sentence + text);
         }
     }
 
