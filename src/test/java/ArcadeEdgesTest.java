@@ -51,8 +51,12 @@ public final class ArcadeEdgesTest {
         cracksOfThick();
         letGoHasNoMoreCracks();
         oneHour();
+        windOfSums();
+        lightOfSums();
         dirtOfNoPane();
+        waterOfSums();
         perchOfNowhere();
+        darkOfTests();
         andBeforeOr();
         turnsByNumbers();
         refusedCallsChangeNothing();
@@ -681,6 +685,46 @@ public final class ArcadeEdgesTest {
 
     // ---- tests and sums
 
+    private static void windOfSums() {
+        Check.sentence("In tests and sums hour is the hour, wind the wind");
+        SkylightWash wash = Check.taught(ROW + "cradle c at 0 speed 1 wash 1;go c to 3 + wind;");
+        for (int wind = -3; wind <= 3; wind++) {
+            wash.setWind(wind);
+            Check.due("sent with the wind " + wind, wash.cradle(0, 4), 3 + wind);
+        }
+    }
+
+    private static void lightOfSums() {
+        Check.sentence("light the light");
+        SkylightWash wash = Check.taught(ROW + chimney("h", 0, 30, 1, 0) + "cradle c at 5 speed 1 wash 1;"
+                + "go c to 1 when light = 700;go c to 2 when light = 610;go c to 3 when light = 600;");
+        Check.due("sent when all is clean", wash.cradle(0, 4), 1);
+        wash.pass(3);
+        Check.due("sent with 10 light at pane 0", wash.cradle(0, 4), 2);
+        wash.pass(1);
+        Check.due("dirt of pane 0", wash.pane(0, 1), 120);
+        Check.due("sent with none at pane 0", wash.cradle(0, 4), 3);
+        SkylightWash gone = Check.taught("bay a panes 1 thick 1;bay b panes 3 thick 9;" + chimney("h", 0, 30, 1, 0)
+                + "cradle c at 3 speed 1 wash 1;go c to 1 when light = 400 and hour = 4;");
+        gone.pass(4);
+        Check.due("sent with pane 0 let go", gone.cradle(0, 4), 1);
+    }
+
+    private static void waterOfSums() {
+        Check.sentence("at the pane of a cradle, water what it has");
+        SkylightWash wash = Check.taught(ROW + chimney("h", 6, 9, 1, 0) + "cradle c at 2 speed 1 wash 1;"
+                + "cradle d at 6 speed 1 wash 1;go c to at d - 20 + water d;");
+        for (int hour = 0; hour <= 21; hour++) {
+            Check.due("sent in the hour " + hour, wash.cradle(0, 4), Math.max(0, 6 - hour));
+            wash.pass(1);
+        }
+        SkylightWash none = Check.taught(ROW + chimney("h", 6, 9, 1, 0) + "cradle c at 6 speed 1 wash 1;go c to 5 when water c = 0;");
+        none.pass(19);
+        Check.due("sent with 1 water", none.cradle(0, 4), 6);
+        none.pass(1);
+        Check.due("sent with none", none.cradle(0, 4), 5);
+    }
+
     private static void dirtOfNoPane() {
         Check.sentence("dirt and crack those of the pane with the number of the sum (0, if there is none, or it was let go)");
         String all = "dirt(-1) = 0 and dirt(2) = 0 and dirt(39) = 0 and dirt(40) = 0 and dirt(999999) = 0 and dirt(-999999 * 999) = 0"
@@ -713,6 +757,24 @@ public final class ArcadeEdgesTest {
         Check.due("of pane 0", wash.cradle(0, 4), 5);
         wash.scare(0);
         Check.due("of nowhere again", wash.cradle(0, 4), 2);
+    }
+
+    private static void darkOfTests() {
+        Check.sentence("dark holds, if the bay is dark");
+        String list = "bay a panes 2 thick 9;bay b panes 4 thick 9;" + chimney("h", 0, 30, 1, 0) + chimney("i", 1, 30, 1, 0)
+                + "cradle c at 5 speed 1 wash 1;go c to 2 when dark a;go c to 3 when dark b;";
+        SkylightWash even = Check.taught(list);
+        even.pass(2);
+        Check.due("light of bay a", even.bay(0, 3), 80);
+        Check.due("sent with just 40 for each", even.cradle(0, 4), 5);
+        SkylightWash less = Check.taught(list + chimney("k", 1, 1, 12, 0));
+        less.pass(2);
+        Check.due("light of bay a", less.bay(0, 3), 79);
+        Check.due("sent with 1 less", less.cradle(0, 4), 2);
+        SkylightWash other = Check.taught(list + chimney("k", 1, 1, 12, 0) + "go c to 1;");
+        other.carry(0, 0);
+        other.pass(1);
+        Check.due("sent when none is dark", other.cradle(0, 4), 1);
     }
 
     private static void andBeforeOr() {

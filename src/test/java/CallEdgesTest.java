@@ -52,12 +52,14 @@ public final class CallEdgesTest {
         costingWrongly();
         advising();
         advisingOfSeveral();
+        advisingPanesOnly();
         advisingCradleWrongly();
         advisingHoursWrongly();
         sparing();
         sparingOfSeveral();
         sparingWithoutCradles();
         sparingNoOneElse();
+        sparingAtTheFirstPane();
         sparingWrongly();
         meanOfLeft();
         meanWithoutAny();
@@ -652,6 +654,20 @@ public final class CallEdgesTest {
         Check.due("no light at all", dark.foresee(3, 1), 0);
     }
 
+    private static void advisingPanesOnly() {
+        Check.sentence("P20: Looks for the pane to which a cradle had best be taken now");
+        // Beside the row, on either side, it would have the other one wash all.
+        SkylightWash wash = Check.taught("bay a panes 3 thick 9;" + chimney("h", 1, 30, 12, 0)
+                + "cradle c at 0 speed 1 wash 1;cradle d at 2 speed 9 wash 60;go d to 1 when at c > 2 or at c < 0;");
+        Check.due("of the panes that there are", wash.advise(0, 1), 1);
+        // A pane that was let go is a pane still: with c there, d washes pane 0.
+        SkylightWash gone = Check.taught("bay a panes 3 thick 9;bay b panes 1 thick 1;" + chimney("h", 3, 30, 1, 0)
+                + chimney("i", 0, 30, 1, 0) + "cradle c at 1 speed 1 wash 1;cradle d at 2 speed 9 wash 60;go d to 0 when at c = 3;");
+        gone.pass(4);
+        Check.due("pane 3 let go", gone.pane(3, 3), 1);
+        Check.due("to one that was let go", gone.advise(0, 2), 3);
+    }
+
     private static void advisingCradleWrongly() {
         Check.sentence("P20: Throws IndexOutOfBoundsException if there is no such cradle");
         SkylightWash wash = Check.taught(LIST);
@@ -734,6 +750,14 @@ public final class CallEdgesTest {
         // Its water is told as it is: without c it stays 20, with c it is less.
         Check.due("its water", Check.taught(begin + "cradle c at 2 speed 9 wash 60;cradle d at 5 speed 9 wash 60;"
                 + "go d to 2 when water c = 20;").spare(1), 0);
+    }
+
+    private static void sparingAtTheFirstPane() {
+        Check.sentence("P21: nor keeps flocks away, at the first panes too");
+        // Without c the flock fouls pane 3, without d pane 0: both are as good.
+        SkylightWash wash = Check.taught("bay a panes 5 thick 9;flock f birds 20 every 12;"
+                + "cradle c at 3 speed 1 wash 1;cradle d at 1 speed 1 wash 1;");
+        Check.due("either fouls", wash.spare(1), 0);
     }
 
     private static void sparingWrongly() {

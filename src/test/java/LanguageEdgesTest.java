@@ -80,6 +80,7 @@ public final class LanguageEdgesTest {
         trimmingWrongly();
         teachingAnew();
         teachingOften();
+        teachingLess();
         teachingWrongly();
         teachingNothing();
         errorPlaces();
@@ -911,6 +912,23 @@ public final class LanguageEdgesTest {
                 Check.due("told", isTold ? 1 : 0, 0);
             }
         }
+    }
+
+    private static void teachingLess() {
+        Check.sentence("P4: all begins anew, so that bays told no more are not dark");
+        SkylightWash wash = new SkylightWash();
+        // Of the bays told ahead, the second would be dark with the soot of the last list.
+        String more = "bay a panes 2 thick 9;bay b panes 1 thick 9;bay c panes 1 thick 9;";
+        for (String list : new String[] {more, more, more + "!", BAY, more + more,
+            "bay a panes 8 thick 9;chimney h at 2 soot 30 every 1 reach 0;"}) {
+            Check.feed(wash, list);
+            wash.teach();
+        }
+        wash.pass(3);
+        Check.due("light of pane 2", wash.pane(2, 4), 10);
+        Check.due("dark bays", wash.count(12), 0);
+        Check.due("dark bays as foreseen", wash.foresee(1, 3), 0);
+        Check.dueThrow("a bay told no more", IndexOutOfBoundsException.class, () -> wash.bay(1, 4));
     }
 
     private static void teachingWrongly() {
