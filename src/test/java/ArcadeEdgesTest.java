@@ -228,6 +228,12 @@ public final class ArcadeEdgesTest {
         SkylightWash third = Check.taught("bay a panes 3 thick 9;" + chimney("h", 0, 25, 1, 0) + chimney("i", 1, 25, 1, 0));
         third.pass(4);
         Check.due("dark with 0, 0 and 100", third.bay(0, 4), 1);
+        // One chimney makes three bays dark.
+        SkylightWash many = Check.taught("bay a panes 1 thick 9;bay b panes 1 thick 9;bay c panes 1 thick 9;bay d panes 8 thick 9;"
+                + chimney("h", 1, 30, 1, 1));
+        many.pass(3);
+        Check.due("dark bays of four", many.count(12), 3);
+        Check.due("the last one", many.bay(3, 4), 0);
     }
 
     private static void free() {
@@ -733,11 +739,11 @@ public final class ArcadeEdgesTest {
                 + "cradle c at 1 speed 1 wash 1;go c to 0 when " + all + ";");
         wash.pass(3);
         Check.due("of none", wash.cradle(0, 4), 0);
-        SkylightWash gone = Check.taught("bay a panes 2 thick 1;" + chimney("h", 0, 30, 1, 0)
-                + "cradle c at 1 speed 1 wash 1;go c to 1 when dirt(0) = 90 and crack(0) = 18;"
+        SkylightWash gone = Check.taught("bay a panes 3 thick 1;" + chimney("h", 0, 30, 1, 0)
+                + "cradle c at 1 speed 1 wash 1;go c to 2 when dirt(0) = 90 and crack(0) = 18;"
                 + "go c to 0 when dirt(0) = 0 and crack(0) = 0;go c to 1;");
         gone.pass(3);
-        Check.due("of one ahead of its end", gone.cradle(0, 4), 1);
+        Check.due("of one ahead of its end", gone.cradle(0, 4), 2);
         gone.pass(1);
         Check.due("of one let go", gone.cradle(0, 4), 0);
         // The panes of a greater list before are none.

@@ -8,6 +8,11 @@ public final class CallEdgesTest {
     private static final String LIST = "bay a panes 2 thick 1;bay b panes 3 thick 2;" + chimney("h", 0, 20, 1, 0)
             + "cradle c at 4 speed 1 wash 9;cradle d at 3 speed 2 wash 60;flock f birds 3 every 4;flock g birds 20 every 12;"
             + "go d to 9;scare f when 1 = 2;";
+    // No two sorts are told as often as one another.
+    private static final String UNLIKE = "bay a panes 2 thick 9;bay b panes 3 thick 8;bay c panes 1 thick 7;bay d panes 5 thick 6;"
+            + chimney("h", 4, 7, 2, 3) + "cradle c at 4 speed 1 wash 2;cradle d at 6 speed 2 wash 4;cradle e at 4 speed 3 wash 6;"
+            + "flock f birds 3 every 2;flock g birds 4 every 5;"
+            + "go c to hour;go d to perch f;scare f when hour = 3;scare g when perch f = perch g;go e to 10 - hour;go c to 1;";
     private static final int[] FAR = {-1, -2, 100, Integer.MIN_VALUE, Integer.MAX_VALUE};
 
     private CallEdgesTest() {
@@ -16,6 +21,7 @@ public final class CallEdgesTest {
     public static void main(String[] args) {
         callsOfOneObject();
         counts();
+        countsOfEachSort();
         countsWrongly();
         letGoNowAndInAll();
         panes();
@@ -66,6 +72,7 @@ public final class CallEdgesTest {
         digestOfNothing();
         digestWraps();
         asItComes();
+        asAllIsNow();
         nothingChanged();
         Check.finish();
     }
@@ -123,6 +130,27 @@ public final class CallEdgesTest {
         wash.setWind(-3);
         Check.feed(wash, "!");
         tells(new Row("count with a wind and a tape", 0, -3, 2, 5, 1, 2, 2, 2, 500, 0, 0, 0, 0, 1), wash::count);
+    }
+
+    private static void countsOfEachSort() {
+        Check.sentence("P6: 2 bays, 3 panes, 4 chimneys, 5 cradles, 6 flocks, 7 orders");
+        SkylightWash wash = Check.taught(UNLIKE);
+        tells(new Row("count", 0, 0, 4, 11, 1, 3, 2, 6, 1100, 0, 0, 0, 0, 0), wash::count);
+        Check.due("cradles at pane 4", wash.pane(4, 5), 2);
+        wash.carry(1, 4);
+        Check.due("cradles at pane 4", wash.pane(4, 5), 3);
+        Check.due("cradles at pane 6", wash.pane(6, 5), 0);
+        Check.dueThrow("pane(11, 0)", IndexOutOfBoundsException.class, () -> wash.pane(11, 0));
+        Check.dueThrow("bay(4, 0)", IndexOutOfBoundsException.class, () -> wash.bay(4, 0));
+        Check.dueThrow("cradle(3, 0)", IndexOutOfBoundsException.class, () -> wash.cradle(3, 0));
+        Check.dueThrow("flock(2, 0)", IndexOutOfBoundsException.class, () -> wash.flock(2, 0));
+        Check.dueThrow("worst(11)", IndexOutOfBoundsException.class, () -> wash.worst(11));
+        Check.dueThrow("glaze(11)", IndexOutOfBoundsException.class, () -> wash.glaze(11));
+        Check.dueThrow("carry(3, 0)", IndexOutOfBoundsException.class, () -> wash.carry(3, 0));
+        Check.dueThrow("carry(0, 11)", IndexOutOfBoundsException.class, () -> wash.carry(0, 11));
+        Check.dueThrow("scare(2)", IndexOutOfBoundsException.class, () -> wash.scare(2));
+        Check.dueThrow("until(11)", IndexOutOfBoundsException.class, () -> wash.until(11));
+        Check.dueThrow("advise(3, 1)", IndexOutOfBoundsException.class, () -> wash.advise(3, 1));
     }
 
     private static void countsWrongly() {
@@ -338,6 +366,12 @@ public final class CallEdgesTest {
         wash.glaze(0);
         Check.due("worst(2) with a new pane 0", wash.worst(2), 0);
         Check.due("worst(4) with a new pane 0", wash.worst(4), 3);
+        SkylightWash kept = Check.taught("bay a panes 4 thick 9;" + chimney("h", 2, 5, 12, 1) + "cradle c at 2 speed 1 wash 1;");
+        kept.pass(1);
+        int[] notFree = {1, 2, 3, 0};
+        for (int place = 0; place < 4; place++) {
+            Check.due("worst(" + place + ") with panes that are not free", kept.worst(place), notFree[place]);
+        }
     }
 
     private static void worstWrongly() {
@@ -812,36 +846,46 @@ public final class CallEdgesTest {
 
     private static void digestWraps() {
         Check.sentence("P23: for each of the following numbers x, d becomes d * 31 + x, which wraps around as a 64-bit integer");
-        SkylightWash wash = Check.taught(LIST);
-        wash.setWind(-3);
-        for (int hour = 0; hour < 30; hour++) {
-            BigInteger d = BigInteger.valueOf(839);
-            for (int what = 0; what < 14; what++) {
-                d = next(d, wash.count(what));
-            }
-            for (int i = 0; i < 5 * 7; i++) {
-                d = next(d, wash.pane(i / 7, i % 7));
-            }
-            for (int i = 0; i < 2 * 5; i++) {
-                d = next(d, wash.bay(i / 5, i % 5));
-            }
-            for (int i = 0; i < 2 * 6; i++) {
-                d = next(d, wash.cradle(i / 6, i % 6));
-            }
-            for (int i = 0; i < 2 * 4; i++) {
-                d = next(d, wash.flock(i / 4, i % 4));
-            }
-            Check.due("in the hour " + hour, wash.digest(), d.longValue());
-            if (hour < 3) {
-                wash.pass(1);
+        for (String list : new String[] {LIST, UNLIKE, "bay a panes 3 thick 1;", "flock f birds 2 every 1;"}) {
+            for (int hours = 1; hours <= 10; hours++) {
+                SkylightWash wash = Check.taught(list);
+                wash.setWind(-3);
+                Check.due("at first, of " + list, wash.digest(), digestOf(wash));
+                wash.pass(hours);
+                Check.feed(wash, "!");
+                Check.due("behind " + hours + " h, of " + list, wash.digest(), digestOf(wash));
             }
         }
+    }
+
+    private static long digestOf(SkylightWash wash) {
+        BigInteger d = BigInteger.valueOf(839);
+        for (int what = 0; what < 14; what++) {
+            d = next(d, wash.count(what));
+        }
+        int panes = wash.count(3);
+        for (int i = 0; i < panes * 7; i++) {
+            d = next(d, wash.pane(i / 7, i % 7));
+        }
+        int bays = wash.count(2);
+        for (int i = 0; i < bays * 5; i++) {
+            d = next(d, wash.bay(i / 5, i % 5));
+        }
+        int cradles = wash.count(5);
+        for (int i = 0; i < cradles * 6; i++) {
+            d = next(d, wash.cradle(i / 6, i % 6));
+        }
+        int flocks = wash.count(6);
+        for (int i = 0; i < flocks * 4; i++) {
+            d = next(d, wash.flock(i / 4, i % 4));
+        }
+        return d.longValue();
     }
 
     private static void asItComes() {
         Check.sentence("Returns this, if nothing is done by hand (nothing is changed).");
         SkylightWash wash = Check.taught(LIST);
-        for (int hour = 0; hour < 30; hour++) {
+        for (int hour = 0; hour < 25; hour++) {
             long[] told = new long[4];
             for (int what = 0; what < 4; what++) {
                 told[what] = wash.foresee(1, what);
@@ -860,6 +904,46 @@ public final class CallEdgesTest {
             Check.due("all dirt", wash.count(9), told[2]);
             Check.due("dark bays", wash.count(12), told[3]);
             Check.due("until(1) 1 h on", wash.until(1), until > 0 ? until - 1 : until);
+        }
+    }
+
+    /** In the hour 8, with all that can change changed. */
+    private static SkylightWash used() {
+        SkylightWash wash = Check.taught("bay a panes 1 thick 1;bay b panes 4 thick 3;bay c panes 3 thick 2;" + chimney("h", 0, 30, 1, 0)
+                + chimney("i", 4, 9, 2, 3) + "cradle c at 7 speed 1 wash 4;cradle d at 4 speed 2 wash 3;"
+                + "flock f birds 12 every 9;flock g birds 5 every 11;go d to perch f;go c to 5 when water c > 12;");
+        wash.pass(5);
+        wash.scare(0);
+        wash.pass(1);
+        wash.scare(1);
+        wash.setWind(1);
+        wash.pass(2);
+        wash.carry(0, 6);
+        return wash;
+    }
+
+    private static void asAllIsNow() {
+        Check.sentence("Returns this, if nothing is done by hand: as all is now, panes, cradles and flocks");
+        SkylightWash wash = used();
+        Check.due("panes let go", wash.count(10), 1);
+        for (int flock = 0; flock < 2; flock++) {
+            Check.due("a flock at a pane, not at that of the number of its moves",
+                    wash.flock(flock, 0) > 0 && wash.flock(flock, 0) != wash.flock(flock, 3) ? 1 : 0, 1);
+        }
+        int[] letGoIn = new int[wash.count(3)];
+        for (int pane = 0; pane < letGoIn.length; pane++) {
+            letGoIn[pane] = wash.until(pane);
+        }
+        for (int hours = 1; hours <= 120; hours += hours < 30 ? 1 : 9) {
+            SkylightWash other = used();
+            Check.due("foresee(" + hours + ", 0)", wash.foresee(hours, 0), other.pass(hours));
+            Check.due("foresee(" + hours + ", 1)", wash.foresee(hours, 1), other.count(8));
+            Check.due("foresee(" + hours + ", 2)", wash.foresee(hours, 2), other.count(9));
+            Check.due("foresee(" + hours + ", 3)", wash.foresee(hours, 3), other.count(12));
+            for (int pane = 0; pane < letGoIn.length; pane++) {
+                boolean isBy = letGoIn[pane] >= 0 && letGoIn[pane] <= hours;
+                Check.due("pane " + pane + " let go behind " + hours + " h", other.pane(pane, 3), isBy ? 1 : 0);
+            }
         }
     }
 

@@ -59,6 +59,7 @@ public final class LanguageEdgesTest {
         otherNameOfFlock();
         otherNameOfBay();
         toldAhead();
+        toldByAnotherList();
         sixthBay();
         fifthChimney();
         fourthCradle();
@@ -82,6 +83,7 @@ public final class LanguageEdgesTest {
         teachingOften();
         teachingLess();
         teachingWrongly();
+        teachingWronglyLater();
         teachingNothing();
         errorPlaces();
         noErrorPlace();
@@ -597,12 +599,28 @@ public final class LanguageEdgesTest {
         Check.dueError(ALL + "bay b panes 1 thick 1;go c to 1 when dark b;", 0, -1);
         Check.dueError(ALL + "scare g when 1=1;flock g birds 1 every 1;", 3, ALL.length() + 6);
         Check.dueError(ALL + "flock g birds 1 every 1;scare g when perch g=1;", 0, -1);
-        // What an earlier list told is told no more.
-        SkylightWash wash = Check.taught(ALL);
-        Check.feed(wash, BAY + "go c to 1;");
-        Check.due("a cradle of the list before", wash.teach(), 3);
-        Check.feed(wash, BAY);
-        Check.due("a bay of the list before", wash.teach(), 0);
+    }
+
+    private static void toldByAnotherList() {
+        Check.sentence("(at the beginning of a line) is that of one of the same sort told ahead: what the list before told is not");
+        String line = "cradle y at 0 speed 1 wash 1;flock y birds 1 every 1;";
+        String[] uses = {"go c to 1;", "scare f when 1=1;", "go y to at c;", "go y to water c;", "go y to perch f;",
+            "go y to 1 when dark b;", "scare y when perch f=1;"};
+        for (String use : uses) {
+            SkylightWash wash = Check.taught("bay a panes 1 thick 1;bay b panes 1 thick 1;cradle y at 0 speed 1 wash 1;"
+                    + "cradle c at 0 speed 1 wash 1;flock y birds 1 every 1;flock f birds 1 every 1;" + use);
+            Check.feed(wash, "bay x panes 8 thick 1;" + line + use);
+            Check.due("behind another list, " + use, wash.teach(), 3);
+            Check.feed(wash, "bay x panes 8 thick 1;" + line + "cradle c at 0 speed 1 wash 1;flock f birds 1 every 1;"
+                    + "bay b panes 1 thick 1;" + use);
+            Check.due("told anew, " + use, wash.teach(), 0);
+            Check.feed(wash, use);
+            Check.due("behind a list without any", wash.teach(), 3);
+        }
+        String all = ALL + "chimney h at 0 soot 1 every 1 reach 1;";
+        SkylightWash same = Check.taught(all);
+        Check.feed(same, all);
+        Check.due("the same names once more", same.teach(), 0);
     }
 
     private static void sixthBay() {
@@ -946,6 +964,25 @@ public final class LanguageEdgesTest {
             Check.due("digest behind more hours", wash.digest(), other.digest());
             Check.feed(wash, ALL);
             Check.due("teach of a list without an error then", wash.teach(), 0);
+        }
+    }
+
+    private static void teachingWronglyLater() {
+        Check.sentence("P4: If it has an error, all stays, behind any number of lists");
+        String[] lists = {CRADLE, ALL, "bay a panes 3 thick 2;bay b panes 5 thick 1;flock f birds 3 every 2;", BAY};
+        SkylightWash wash = new SkylightWash();
+        for (String list : lists) {
+            Check.feed(wash, list);
+            Check.due("teach of " + list, wash.teach(), 0);
+            wash.foresee(1, 0);
+            long digest = wash.digest();
+            int dirt = wash.foresee(9, 2);
+            for (int i = 0; i < 3; i++) {
+                Check.feed(wash, "bay x panes 8 thick 3;cradle x at 7 speed 2 wash 2;flock x birds 9 every 1;go x to 9");
+                Check.due("teach without the last ;", wash.teach(), 1);
+                Check.due("digest", wash.digest(), digest);
+                Check.due("foresee(9, 2)", wash.foresee(9, 2), dirt);
+            }
         }
     }
 

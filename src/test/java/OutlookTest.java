@@ -240,9 +240,10 @@ public final class OutlookTest {
         Check.due("P23 with a tape and a wind", wash.digest(), digestOf(wash));
         wash.teach();
         Check.due("P23 taught", wash.digest(), digestOf(wash));
-        for (int i = 0; i < 10; i++) {
-            wash.pass(7);
-            Check.due("P23 by the hours", wash.digest(), digestOf(wash));
+        for (int hours = 7; hours <= 70; hours += 7) {
+            SkylightWash older = Check.taught(BUSY);
+            older.pass(hours);
+            Check.due("P23 by the hours", older.digest(), digestOf(older));
         }
     }
 
