@@ -922,28 +922,51 @@ public final class CallEdgesTest {
         return wash;
     }
 
+    /** In the hour 4, with two flocks that nothing drives off till the hour 12. */
+    private static SkylightWash perched() {
+        SkylightWash wash = Check.taught("bay a panes 6 thick 1;flock f birds 12 every 12;flock g birds 7 every 12;");
+        wash.pass(1);
+        wash.scare(0);
+        wash.pass(1);
+        wash.scare(1);
+        wash.pass(1);
+        wash.scare(0);
+        wash.pass(1);
+        return wash;
+    }
+
     private static void asAllIsNow() {
         Check.sentence("Returns this, if nothing is done by hand: as all is now, panes, cradles and flocks");
-        SkylightWash wash = used();
-        Check.due("panes let go", wash.count(10), 1);
-        for (int flock = 0; flock < 2; flock++) {
-            Check.due("a flock at a pane, not at that of the number of its moves",
-                    wash.flock(flock, 0) > 0 && wash.flock(flock, 0) != wash.flock(flock, 3) ? 1 : 0, 1);
+        Check.due("panes let go", used().count(10), 1);
+        int[] letGoIn = untilEach(used());
+        for (int hours = 1; hours <= 120; hours += hours < 30 ? 1 : 9) {
+            comesAsForeseen(used(), used(), hours, letGoIn);
         }
+        SkylightWash wash = perched();
+        tells(new Row("the first flock", 4, 12, 12, 3), what -> wash.flock(0, what));
+        tells(new Row("the second flock", 3, 7, 12, 2), what -> wash.flock(1, what));
+        letGoIn = untilEach(wash);
+        for (int hours = 1; hours <= 30; hours++) {
+            comesAsForeseen(wash, perched(), hours, letGoIn);
+        }
+    }
+
+    private static int[] untilEach(SkylightWash wash) {
         int[] letGoIn = new int[wash.count(3)];
         for (int pane = 0; pane < letGoIn.length; pane++) {
             letGoIn[pane] = wash.until(pane);
         }
-        for (int hours = 1; hours <= 120; hours += hours < 30 ? 1 : 9) {
-            SkylightWash other = used();
-            Check.due("foresee(" + hours + ", 0)", wash.foresee(hours, 0), other.pass(hours));
-            Check.due("foresee(" + hours + ", 1)", wash.foresee(hours, 1), other.count(8));
-            Check.due("foresee(" + hours + ", 2)", wash.foresee(hours, 2), other.count(9));
-            Check.due("foresee(" + hours + ", 3)", wash.foresee(hours, 3), other.count(12));
-            for (int pane = 0; pane < letGoIn.length; pane++) {
-                boolean isBy = letGoIn[pane] >= 0 && letGoIn[pane] <= hours;
-                Check.due("pane " + pane + " let go behind " + hours + " h", other.pane(pane, 3), isBy ? 1 : 0);
-            }
+        return letGoIn;
+    }
+
+    private static void comesAsForeseen(SkylightWash asked, SkylightWash other, int hours, int[] letGoIn) {
+        Check.due("foresee(" + hours + ", 0)", asked.foresee(hours, 0), other.pass(hours));
+        Check.due("foresee(" + hours + ", 1)", asked.foresee(hours, 1), other.count(8));
+        Check.due("foresee(" + hours + ", 2)", asked.foresee(hours, 2), other.count(9));
+        Check.due("foresee(" + hours + ", 3)", asked.foresee(hours, 3), other.count(12));
+        for (int pane = 0; pane < letGoIn.length; pane++) {
+            boolean isBy = letGoIn[pane] >= 0 && letGoIn[pane] <= hours;
+            Check.due("pane " + pane + " let go behind " + hours + " h", other.pane(pane, 3), isBy ? 1 : 0);
         }
     }
 
