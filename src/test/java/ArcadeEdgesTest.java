@@ -568,6 +568,14 @@ public final class ArcadeEdgesTest {
             stays.pass(1);
             Check.due("water behind " + (hour + 1) + " h", stays.cradle(0, 3), water[hour]);
         }
+        // On its way it has none of it yet.
+        SkylightWash far = Check.taught("bay a panes 4 thick 9;" + chimney("h", 2, 9, 1, 1) + "cradle c at 3 speed 1 wash 1;go c to 0;");
+        int[] onItsWay = {19, 18, 20};
+        for (int hour = 0; hour < onItsWay.length; hour++) {
+            far.pass(1);
+            Check.due("its pane behind " + (hour + 1) + " h", far.cradle(0, 0), 2 - hour);
+            Check.due("its water behind " + (hour + 1) + " h", far.cradle(0, 3), onItsWay[hour]);
+        }
         // By hand it is there at once, but the water comes with the hour; on its way over it, none.
         SkylightWash carried = Check.taught("bay a panes 3 thick 9;" + chimney("h", 1, 9, 1, 0) + "cradle c at 1 speed 1 wash 1;go c to 1;");
         carried.pass(4);

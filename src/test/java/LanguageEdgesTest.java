@@ -39,6 +39,8 @@ public final class LanguageEdgesTest {
         otherWords();
         anyNumberOfTimes();
         comparing();
+        fromLeftToRight();
+        turningValues();
         leastAndMost();
         depthOfRound();
         depthOfSquare();
@@ -341,6 +343,24 @@ public final class LanguageEdgesTest {
         holds(LEAST + " < " + GREATEST + " and not " + GREATEST + " <= " + LEAST);
         holds(GREATEST + " > " + LEAST + " and not " + LEAST + " >= " + GREATEST);
         holds(LEAST + " = " + LEAST + " and not " + LEAST + " = " + GREATEST);
+        Check.dueError(CRADLE + "go c to 1 when 1=1=1;", 1, CRADLE.length() + 18);
+        Check.dueError(CRADLE + "go c to 1 when 1<2<=3;", 1, CRADLE.length() + 18);
+        Check.dueError(CRADLE + "go c to 1 when [1=1]=1;", 1, CRADLE.length() + 20);
+    }
+
+    private static void fromLeftToRight() {
+        Check.sentence("sum = product { ( \"+\" | \"-\" ) product }, product = value { ( \"*\" | \"/\" ) value }");
+        holds("8 - 4 - 2 = 2 and 8 - 4 + 2 = 6 and 8 + 4 - 2 = 10");
+        holds("8 / 4 / 2 = 1 and 7 / 2 * 2 = 6 and 2 * 7 / 4 = 3");
+        holds("8 / (4 / 2) = 4 and 7 / (2 * 2) = 1 and 2 * (7 / 4) = 2 and 8 - (4 - 2) = 6");
+        holds("2 + 3 * 4 = 14 and 20 - 6 / 3 = 18 and (2 + 3) * 4 = 20 and 2 * 3 + 4 = 10");
+    }
+
+    private static void turningValues() {
+        Check.sentence("value = \"-\" value: what it turns is a value alone");
+        holds("-" + LEAST + " / 2 = " + LEAST + " / 2");
+        holds("-1 + 3 = 2 and --3 = 3 and 2 - -1 = 3 and -(1 + 1) = -2 and 2 * -3 = -6");
+        Check.dueError(CRADLE + "go c to " + "-".repeat(8) + "1*(1)/(1)+(1);", 0, -1);
     }
 
     private static void leastAndMost() {
