@@ -43,6 +43,7 @@ public final class LanguageEdgesTest {
         turningValues();
         leastAndMost();
         depthOfRound();
+        depthOfWords();
         depthOfSquare();
         depthOfMinus();
         depthOfNot();
@@ -391,6 +392,21 @@ public final class LanguageEdgesTest {
         Check.dueError(begin + "(".repeat(8) + "dirt(1)" + ")".repeat(8) + ";", 1, begin.length() + 12);
         Check.dueError(begin + "(".repeat(8) + "min(1,1)" + ")".repeat(8) + ";", 1, begin.length() + 11);
         Check.dueError(begin + "(".repeat(400), 1, begin.length() + 8);
+    }
+
+    private static void depthOfWords() {
+        Check.sentence("the (, [, - or not behind which the depth would be 9: the (, not the word ahead of it");
+        String[] ahead = {"[".repeat(8), "not ".repeat(8), "[not ".repeat(4), "(".repeat(8), "-".repeat(8), "not [".repeat(3) + "-(",
+            "dirt(min(max(crack(dirt(min(max(crack("};
+        for (String deep : ahead) {
+            String begin = ALL + "scare f when " + deep;
+            for (String word : new String[] {"dirt", "crack", "min", "max"}) {
+                Check.dueError(begin + word + " (1", 1, begin.length() + word.length() + 1);
+                Check.dueError(begin + word, 1, begin.length() + word.length());
+                Check.dueError(begin + word + " 1", 1, begin.length() + word.length() + 1);
+            }
+            Check.dueError(begin + "hour (", 1, begin.length() + 5);
+        }
     }
 
     private static void depthOfSquare() {

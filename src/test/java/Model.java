@@ -295,8 +295,9 @@ final class Model {
             case "value": return deeper(depth, new String[] {"NUMBER", "hour", "wind", "light", "at NAME", "water NAME",
                 "perch NAME", "dirt inner" + here, "crack inner" + here, "min pair" + here, "max pair" + here, "inner" + here},
                     "- value" + in);
-            case "inner": return deeper(depth, new String[0], "( sum" + in + " )");
-            case "pair": return deeper(depth, new String[0], "( sum" + in + " , sum" + in + " )");
+            // At the greatest depth it is the ( that is wrong, not the word ahead of it: NEVER stands for what no token fits.
+            case "inner": return new String[] {depth < 8 ? "( sum" + in + " )" : "NEVER"};
+            case "pair": return new String[] {depth < 8 ? "( sum" + in + " , sum" + in + " )" : "NEVER"};
             default: return null;
         }
     }
